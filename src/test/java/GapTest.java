@@ -22,6 +22,10 @@ public final class GapTest {
                 "tell(0, 0, 3:1:1, 1) = 0", "batch(0, true) = 1", "tell(0, 0, 1:1:1, 1) = 0", "tell(0, 0, 5:1:1, 1) = 0",
                 "gap(0, 0, 0) = 2", "gap(0, 0, 1) = -1", "batch(0, false) = 2", "gap(0, 0, 0) = 0",
                 "gap(0, 0, 1) = 202", "gap(0, 0, 2) = 404");
+        runs.run("nothing is left over from the call before",
+                "tell(0, 0, 0:1:1, 1) = 0", "tell(0, 0, 2:1:1, 1) = 0", "tell(1, 0, 1:1:1, 1) = 0",
+                "tell(1, 0, 3:1:1, 1) = 0", "gap(0, 0, 0) = 101", "gap(1, 0, 0) = 0", "gap(1, 0, 1) = 202",
+                "gap(0, 0, 0) = 101", "gap(0, 0, 1) = -1");
         runs.run("no such desk or teller, or k is below 0",
                 "gap(3, 0, 0) = index", "gap(-1, 0, 0) = index", "gap(0, 5, 0) = index", "gap(0, -1, 0) = index",
                 "gap(0, 0, -1) = index", "gap(0, 0, -2147483648) = index", "gap(2147483647, 0, 0) = index");

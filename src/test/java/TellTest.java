@@ -57,6 +57,10 @@ public final class TellTest {
         lines.add("join(2, 1) = 58");
         lines.add("many(2, 0) = 120");
         lines.add("many(2, 1) = 120");
+        lines.addAll(List.of("same(2, 2) = true", "same(2, 0) = false", "conflicts(2) = 0", "last(2, 1, 0) = 119",
+                "last(2, 1, 2) = 1", "last(2, 0, 0) = turn", "known(2, 1, 120) = 119", "known(2, 1, 1) = 119",
+                "known(2, 1, 121) = range", "gap(2, 0, 0) = -1", "gap(2, 1, 0) = -1", "gap(0, 0, 0) = 303",
+                "settle(1:0:19, 1) = index", "batch(2, true) = 120", "batch(2, false) = 120"));
         lines.add("restart(0) = 1");
         lines.add("tell(0, 0, 0:1:7, 0) = meaning");
         lines.add("settle(1:0:19, 0) = 119");
