@@ -1,19 +1,25 @@
 import java.lang.reflect.InvocationTargetException;
 import java.lang.reflect.Method;
+import java.util.HashMap;
+import java.util.Map;
+import java.util.Set;
 
 /** Calls a method of the face by its name, on ToldRows or on the model that has the same face. */
 final class Face {
+    static final int MOST_CALLS = 512;
+
+    private static final Set<String> REFUSALS = Set.of("index", "turn", "range", "meaning");
+    private static final Map<Class<?>, Map<String, Method>> METHODS = new HashMap<>();
+
     private Face() {
     }
 
-    /** All names of the face differ, so a name is enough. */
     static Method method(Class<?> of, String name) {
-        for (Method m : of.getDeclaredMethods()) {
-            if (m.getName().equals(name)) {
-                return m;
-            }
+        Method m = METHODS.computeIfAbsent(of, Face::methodsByName).get(name);
+        if (m == null) {
+            throw new AssertionError("no method " + name);
         }
-        throw new AssertionError("no method " + name);
+        return m;
     }
 
     /** The answer as text; for a throw the document's word for it, by the very class that was thrown. */
@@ -27,12 +33,25 @@ final class Face {
         }
     }
 
-    static String word(Throwable thrown) {
+    static boolean isRefusal(String answer) {
+        return REFUSALS.contains(answer);
+    }
+
+    private static String word(Throwable thrown) {
         Class<?> c = thrown.getClass();
         return c == IndexOutOfBoundsException.class ? "index"
                 : c == IllegalStateException.class ? "turn"
                 : c == IllegalArgumentException.class ? "range"
                 : c == UnsupportedOperationException.class ? "meaning"
                 : c.getName();
+    }
+
+    /** All names of the face differ, so a name is enough. */
+    private static Map<String, Method> methodsByName(Class<?> of) {
+        Map<String, Method> methods = new HashMap<>();
+        for (Method m : of.getDeclaredMethods()) {
+            methods.put(m.getName(), m);
+        }
+        return methods;
     }
 }

@@ -1,23 +1,43 @@
-import java.lang.reflect.Method;
+import java.util.List;
 
 /**
- * Runs of calls on new objects, each written as "call = answer". The answer is a number, true, false,
- * or the document's word for a refusal: index, turn, range, meaning. In tell, number:key:time stands
- * for the long that tells them; in settle, teller:life:number stands for the int that names them.
+ * Runs of calls on new objects, each written as "call = answer" (see Call). The answer is a number, true,
+ * false, or the document's word for a refusal: index, turn, range, meaning. Of each refused call in a run
+ * it is looked at, too, that it changed nothing.
  */
 final class Runs {
     private int calls;
     private int wrong;
 
+    private record Line(Call call, String due) {
+        static Line parse(String text) {
+            String[] sides = text.split(" = ");
+            return new Line(Call.parse(sides[0]), sides[1]);
+        }
+
+        boolean isRefused() {
+            return Face.isRefusal(due);
+        }
+    }
+
     void run(String what, String... lines) {
-        ToldRows rows = new ToldRows();
-        for (String line : lines) {
-            String[] sides = line.split(" = ");
-            String got = call(rows, sides[0]);
-            calls++;
-            if (!got.equals(sides[1])) {
-                wrong++;
-                System.out.println(what + ": " + sides[0] + " answered " + got + ", due is " + sides[1]);
+        run(what, List.of(lines));
+    }
+
+    void run(String what, Script script) {
+        run(what, script.lines);
+    }
+
+    private void run(String what, List<String> texts) {
+        List<Line> lines = texts.stream().map(Line::parse).toList();
+        if (lines.size() > Face.MOST_CALLS) {
+            throw new AssertionError(what + ": more calls than an object is used for");
+        }
+        answer(what, lines);
+        answer(what + ", without the refused calls", lines.stream().filter(line -> !line.isRefused()).toList());
+        for (int i = 0; i < lines.size(); i++) {
+            if (lines.get(i).isRefused()) {
+                changedNothing(what, lines.subList(0, i + 1));
             }
         }
     }
@@ -29,33 +49,27 @@ final class Runs {
         }
     }
 
-    private static String call(ToldRows rows, String call) {
-        int open = call.indexOf('(');
-        Method m = Face.method(ToldRows.class, call.substring(0, open));
-        String[] words = call.substring(open + 1, call.length() - 1).split(", ");
-        Class<?>[] types = m.getParameterTypes();
-        Object[] args = new Object[types.length];
-        for (int i = 0; i < args.length; i++) {
-            args[i] = types[i] == boolean.class ? (Object) Boolean.valueOf(words[i])
-                    : types[i] == long.class ? (Object) told(words[i])
-                    : (Object) name(words[i]);
+    private void answer(String what, List<Line> lines) {
+        ToldRows rows = new ToldRows();
+        for (Line line : lines) {
+            String got = line.call.answerOf(rows);
+            calls++;
+            if (!got.equals(line.due)) {
+                tellWrong(what + ": " + line.call + " answered " + got + ", due is " + line.due);
+            }
         }
-        return Face.answer(rows, m, args);
     }
 
-    private static long told(String word) {
-        String[] parts = word.split(":");
-        if (parts.length == 1) {
-            return Long.parseLong(word);
+    private void changedNothing(String what, List<Line> untilRefused) {
+        List<Call> made = untilRefused.stream().map(Line::call).toList();
+        Call refused = made.get(made.size() - 1);
+        if (!Portrait.isSame(made.subList(0, made.size() - 1), List.of(refused))) {
+            tellWrong(what + ": " + refused + " is refused, but changed later answers");
         }
-        return Long.parseLong(parts[0]) << 23 | Long.parseLong(parts[1]) << 20 | Long.parseLong(parts[2]);
     }
 
-    private static int name(String word) {
-        String[] parts = word.split(":");
-        if (parts.length == 1) {
-            return Integer.parseInt(word);
-        }
-        return Integer.parseInt(parts[0]) << 9 | Integer.parseInt(parts[1]) << 7 | Integer.parseInt(parts[2]);
+    private void tellWrong(String text) {
+        wrong++;
+        System.out.println(text);
     }
 }
