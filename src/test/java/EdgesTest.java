@@ -5,7 +5,7 @@ import java.util.stream.IntStream;
 import java.util.stream.Stream;
 
 /**
- * Every call with every mixture of arguments at their edges (the last that is right and the first that is
+ * Every call with every mixture of the edges listed for its arguments (the last that is right and the first that is
  * wrong on each side, and the farthest), in states from empty to full, must be answered as the model
  * answers it; and neither refused calls nor questions may change anything.
  */

@@ -2,9 +2,10 @@ import java.util.ArrayList;
 import java.util.List;
 
 /**
- * All that an object answers after some calls, so that two objects can be told apart: first what can be
- * asked, then what it answers to calls that change it. Each part is asked of an object of its own, since
- * what an object answers after its 512th call is free.
+ * A wide choice of what an object answers after some calls, so that two objects can be told apart: first what
+ * can be asked (of all desks, keys and tellers, but only at some own times, moments and gaps), then what it
+ * answers to calls that change it (settling only some numbers). Each part is asked of an object of its own,
+ * since what an object answers after its 512th call is free; behind very many calls the changes are cut short.
  */
 final class Portrait {
     private static final int[] OWN_TIMES =
@@ -17,7 +18,7 @@ final class Portrait {
     private Portrait() {
     }
 
-    /** Whether an object to which some calls more were made answers all as one to which they were not. */
+    /** Whether an object to which some calls more were made answers this choice as one to which they were not. */
     static boolean isSame(List<Call> before, List<Call> more) {
         List<Call> with = new ArrayList<>(before);
         with.addAll(more);

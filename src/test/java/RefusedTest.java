@@ -3,7 +3,7 @@ import java.util.List;
 
 /**
  * What is refused changes nothing: each refusal of the document, in states in which all that a call could
- * change has been set. Runs looks, of each, at all later answers with and without it.
+ * change has been set. Runs compares, of each, the portraits with and without it.
  */
 public final class RefusedTest {
     private static final String[] INDEX = {
